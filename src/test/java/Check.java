@@ -4,18 +4,50 @@ import java.util.Objects;
 final class Check {
     private static int asked = 0;
     private static int wrong = 0;
+    private static int shown = 0;
+    private static int mostShown = 50;
+    private static String about = "";
+
+    static {
+        Thread watch = new Thread(Check::endAtLast);
+        watch.setDaemon(true);
+        watch.start();
+    }
 
     private Check() {
+    }
+
+    /** What the next answers are about stands ahead of each that is wrong; the first few of them are shown. */
+    static void about(String words) {
+        about = words + ": ";
+        shown = 0;
+        mostShown = 5;
     }
 
     static void same(String what, Object got, Object due) {
         asked++;
         if (!Objects.equals(got, due)) {
             wrong++;
-            if (wrong <= 50) {
-                System.out.println(what + " answered " + got + ", due is " + due);
+            shown++;
+            if (shown <= mostShown) {
+                System.out.println(about + what + " answered " + got + ", due is " + due);
             }
         }
+    }
+
+    /** A call that does not end fails the test too. */
+    private static void endAtLast() {
+        try {
+            Thread.sleep(300_000);
+        } catch (InterruptedException e) {
+            return;
+        }
+        System.out.println(about + "no end behind " + asked + " answers");
+        Runtime.getRuntime().halt(1);
+    }
+
+    static int asked() {
+        return asked;
     }
 
     /** Calls, which must throw just this class, and leave the text as it was. */
@@ -33,7 +65,9 @@ final class Check {
 
     static String lettersOf(LyndonText x) {
         StringBuilder letters = new StringBuilder();
-        for (int place = 0; place < x.length(); place++) {
+        // Asked once: an object has no more than 512 calls.
+        int length = x.length();
+        for (int place = 0; place < length; place++) {
             letters.append((char) ('a' + x.letterAt(place)));
         }
         return letters.toString();

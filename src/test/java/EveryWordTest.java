@@ -66,7 +66,12 @@ final class EveryWordTest {
             Check.same("factorStart" + on, x.factorStart(factor), plain.factorStart(factor));
             Check.same("factorLength" + on, x.factorLength(factor), plain.factorLength(factor));
         }
-        List<int[]> runs = PlainText.runsOf(letters);
+        askOfRuns(on, x, plain, PlainText.runsOf(letters));
+        // On an object of its own: with the rest it would come to more than 512 calls.
+        askOfPlaces(on, Check.textOf(letters), plain);
+    }
+
+    private static void askOfRuns(String on, LyndonText x, PlainText plain, List<int[]> runs) {
         Check.same("runs()" + on, x.runs(), runs.size());
         for (int run = 0; run < runs.size(); run++) {
             Check.same("runStart" + on, x.runStart(run), runs.get(run)[0]);
@@ -75,7 +80,11 @@ final class EveryWordTest {
         }
         Check.same("exponentsOfRuns()" + on, x.exponentsOfRuns(), plain.exponentsOfRuns());
         Check.same("squares()" + on, x.squares(), plain.squares());
-        for (int place = 0; place < letters.length(); place++) {
+    }
+
+    private static void askOfPlaces(String on, LyndonText x, PlainText plain) {
+        int length = plain.letters().length();
+        for (int place = 0; place < length; place++) {
             Check.same("factorOver" + on, x.factorOver(place), plain.factorOver(place));
             Check.same("longestLyndon" + on, x.longestLyndon(place, false), plain.longestLyndon(place, false));
             Check.same("longestLyndon reversed" + on, x.longestLyndon(place, true), plain.longestLyndon(place, true));

@@ -239,8 +239,9 @@ final class PromisesTest {
         int[][] wrong = {{0, 1}, {9, 1}, {1, 0}, {1, 7}, {-1, 2}, {2, -1}, {8, 3}, {5, 3}, {3, 4}, {8, 6},
             {Integer.MAX_VALUE, 1}, {1, Integer.MAX_VALUE}, {Integer.MIN_VALUE, 1}, {1, Integer.MIN_VALUE}};
         for (int[] pair : wrong) {
-            Check.refused("loadDeBruijn(" + pair[0] + ", " + pair[1] + ")", x, ARGUMENT,
-                    () -> x.loadDeBruijn(pair[0], pair[1]));
+            LyndonText y = text(FULL);
+            Check.refused("loadDeBruijn(" + pair[0] + ", " + pair[1] + ")", y, ARGUMENT,
+                    () -> y.loadDeBruijn(pair[0], pair[1]));
         }
     }
 
@@ -655,12 +656,12 @@ final class PromisesTest {
 
     private static void noPart(String what, PartCall call) {
         for (String letters : new String[] {"", "a", "abc", FULL}) {
-            LyndonText x = text(letters);
             int length = letters.length();
             int[][] wrong = {{0, 0}, {length, length}, {length, length + 1}, {0, length + 1}, {-1, 1}, {-1, length},
                 {2, 1}, {0, Integer.MAX_VALUE}, {Integer.MIN_VALUE, 1}, {Integer.MIN_VALUE, Integer.MAX_VALUE},
                 {Integer.MAX_VALUE, Integer.MIN_VALUE}, {0, -1}};
             for (int[] part : wrong) {
+                LyndonText x = text(letters);
                 Check.refused(what + "(" + part[0] + ", " + part[1] + ") of " + letters, x, INDEX,
                         () -> call.on(x, part[0], part[1]));
             }
