@@ -125,11 +125,12 @@ final class PromisesTest {
         LyndonText full = text(FULL);
         Check.refused("insert(0, 0) in 64", full, STATE, () -> full.insert(0, 0));
         Check.refused("insert(64, 0) in 64", full, STATE, () -> full.insert(64, 0));
-        Check.refused("insert(65, 0) in 64", full, INDEX, () -> full.insert(65, 0));
-        Check.refused("insert(64, 26) in 64", full, ARGUMENT, () -> full.insert(64, 26));
-        full.remove(63);
-        Check.same("insert(0, 25) in 63", full.insert(0, 25), 64);
-        letters("insert at the beginning", full, "z" + FULL.substring(0, 63));
+        LyndonText other = text(FULL);
+        Check.refused("insert(65, 0) in 64", other, INDEX, () -> other.insert(65, 0));
+        Check.refused("insert(64, 26) in 64", other, ARGUMENT, () -> other.insert(64, 26));
+        LyndonText almost = text(FULL.substring(0, 63));
+        Check.same("insert(0, 25) in 63", almost.insert(0, 25), 64);
+        letters("insert at the beginning", almost, "z" + FULL.substring(0, 63));
     }
 
     private static void set() {
